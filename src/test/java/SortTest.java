@@ -353,6 +353,11 @@ public final class SortTest {
         x.means(2, 0);
         Due.due(37, "the poet is poor: dead behind 12 days", x.mountains(1, 1, 0), 0);
         Due.due(37, "grief", x.mountains(1, 1, 1), 1);
+        x.means(2, 7);
+        Due.due(37, "fed 7 days, dead behind 12", x.mountains(1, 1, 1), 1);
+        x.means(2, 8);
+        Due.due(37, "fed 8 days, alive behind 12", x.mountains(1, 1, 1), 0);
+        Due.due(37, "fed 8 days, called behind 12", x.mountains(1, 1, 0), 1);
         x.means(2, 40);
         x.walks(2, 12);
         Due.due(37, "z 2 draws 12", x.mountains(1, 2, 0), 1);

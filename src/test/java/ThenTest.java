@@ -176,8 +176,18 @@ public final class ThenTest {
         Due.due(18, "the last day on 10", slowLamb(14).still(), 10);
         Due.due(18, "the last day on 40", slowLamb(11).still(), 40);
         Due.due(18, "the last day on 50", slowLamb(10).still(), -4);
+        Due.due(18, "the last day on 38", lambOfThreeDays(2).still(), 38);
+        Due.due(18, "the last day on 41", lambOfThreeDays(1).still(), -4);
         Due.due(18, "20 quiet days ahead of more", hungryBull(21).still(), 0);
         Due.due(18, "19 quiet days ahead of more", hungryBull(20).still(), 23);
+    }
+
+    /** On day 1, all people at 15: the lamb goes behind 2, 5, 8, .. days. */
+    private static WhoeverNamesIt lambOfThreeDays(int place) {
+        WhoeverNamesIt x = slowLamb(15);
+        Due.come(x, LAMB, 1, place);
+        x.days(1);
+        return x;
     }
 
     /** A bull of figure 1, called: it loses 1 of means a day, and goes when it hungers, till it is dead. */
@@ -208,6 +218,11 @@ public final class ThenTest {
         Due.due(19, "nobody more is called", x.next(0), 0);
         Due.due(19, "nobody more is dead", x.next(1), 0);
         Due.due(19, "nobody goes", x.next(2), 0);
+        WhoeverNamesIt y = clock(0);
+        y.days(4);
+        Due.due(19, "hunger 8, without means", y.next(1), 1);
+        y.means(2, 1);
+        Due.due(19, "hunger 8, with means of just its need", y.next(1), 0);
         Due.due(19, "what -1", x.next(-1), -1);
         Due.due(19, "what 3", x.next(3), -1);
     }
@@ -239,6 +254,11 @@ public final class ThenTest {
         WhoeverNamesIt y = new WhoeverNamesIt();
         Due.dead(y, 0, GOAT, 0);
         Due.due(20, "one dead", y.name(0, 9, 0), -4);
+        WhoeverNamesIt z = new WhoeverNamesIt();
+        Due.come(z, GOAT, 1, 0);
+        Due.come(z, GOAT, 1, 0);
+        Due.due(20, "of two goats the first", z.name(0, 9, 0), 0);
+        Due.due(20, "with means of just its need", z.name(0, 9, 1), 49);
     }
 
     private static void cover() {
@@ -391,6 +411,13 @@ public final class ThenTest {
     private static void of() {
         WhoeverNamesIt x = new WhoeverNamesIt();
         Due.due(27, "hungriest of none", x.of(4), -4);
+        WhoeverNamesIt y = new WhoeverNamesIt();
+        Due.come(y, LAMB, 9, 0);
+        Due.come(y, LAMB, 9, 0);
+        y.means(1, 41);
+        Due.due(27, "richest, the second", y.of(0), 1);
+        Due.due(27, "a pair with the first", y.of(3), 1);
+        Due.due(27, "hungriest, the first", y.of(4), 0);
         Due.due(27, "richest, all alike", x.of(0), 0);
         Due.due(27, "loudest, all alike", x.of(1), 0);
         int gone = Due.dead(x, 0, GOAT, 4);
