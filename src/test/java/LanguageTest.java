@@ -23,6 +23,12 @@ public final class LanguageTest {
         "whereFrom", "whose", "two", "snow", "share", "forged", "judge", "mountains", "image", "restore", "count",
         "keep", "row", "put", "element", "copy", "cost", "toss"));
 
+    /** How many numbers each call takes. */
+    private static final String PARAMETERS = " mountain:1 beast:2 person:2 comes:2 stands:2 walks:2 calls:2 answers:1"
+        + " tongue:2 means:2 days:1 beastThen:3 personThen:3 named:2 dies:1 ruined:1 still:0 next:1 name:3 cover:2"
+        + " letGo:2 stand:3 least:2 exchange:1 teach:3 of:1 nearest:1 whatIs:3 whereFrom:2 whose:2 two:3 snow:4 share:2"
+        + " forged:1 judge:1 mountains:3 image:0 restore:0 count:1 keep:4 row:3 put:3 element:2 copy:5 cost:1 toss:1 ";
+
     private static final Set<String> LIBRARY = Set.of("Math.abs", "Math.min", "Math.max", "Integer.bitCount",
         "System.arraycopy", "Arrays.fill");
 
@@ -65,11 +71,13 @@ public final class LanguageTest {
             if (Modifier.isPublic(m.getModifiers())) {
                 open.add(m.getName());
                 rule(1, !Modifier.isStatic(m.getModifiers()), m.getName() + " is static");
+                signature(m);
             } else {
                 rule(1, Modifier.isPrivate(m.getModifiers()), m.getName() + " is neither public nor private");
                 rule(1, !FACE.contains(m.getName()), m.getName() + " bears the name of a public one");
             }
         }
+        rule(1, c.getMethods().length == FACE.size() + Object.class.getMethods().length, "a name stands for two");
         rule(1, open.equals(FACE), "the public methods are not those of the document: " + open);
         for (Field f : c.getDeclaredFields()) {
             rule(1, Modifier.isPrivate(f.getModifiers()), f.getName() + " is not private");
@@ -90,6 +98,22 @@ public final class LanguageTest {
                 rule(5, !Modifier.isStatic(f.getModifiers()) || Modifier.isFinal(f.getModifiers()), f.getName());
             }
         }
+    }
+
+    /** Numbers alone go in and come out, longs of three; element alone tells of exceptions; no name stands for two. */
+    private static void signature(Method m) {
+        String name = m.getName();
+        Class<?> answer = Set.of("snow", "share", "element").contains(name) ? long.class : int.class;
+        rule(1, m.getReturnType() == answer, name + " answers " + m.getReturnType());
+        rule(1, Set.of(m.getExceptionTypes()).equals(name.equals("element")
+            ? Set.of(IllegalArgumentException.class, IllegalStateException.class) : Set.of()), name + " throws");
+        StringBuilder types = new StringBuilder();
+        for (Class<?> type : m.getParameterTypes()) {
+            types.append(type == int.class ? "i" : "?");
+        }
+        int parameters = PARAMETERS.indexOf(" " + name + ":");
+        rule(1, parameters >= 0 && types.toString().equals("iiiii".substring(0,
+            PARAMETERS.charAt(parameters + name.length() + 2) - '0')), name + " takes " + types);
     }
 
     private static void words(String code) {
