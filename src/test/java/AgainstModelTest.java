@@ -13,8 +13,10 @@ import java.util.TreeSet;
  * should be, some at an edge or beyond it; rows tell mostly what would be true, so that most questions have an answer.
  */
 public final class AgainstModelTest {
-    private static final int RUNS = 260;
-    private static final int CALLS = 100;
+    private static final int RUNS = 1600;
+
+    /** A question by a row is some hundred calls, the look at all some 160: so no object goes beyond 512. */
+    private static final int CALLS = 230;
 
     /** Each call with the range that each argument should keep to; what is beyond it by one is an edge to be tried. */
     private static final String[] FACE = {
@@ -48,7 +50,7 @@ public final class AgainstModelTest {
             model = new Model();
             told = new ArrayList<>();
             settle();
-            for (int i = 0; i < CALLS && Due.wrongSoFar() < 10; i++) {
+            while (told.size() < CALLS && Due.wrongSoFar() < 10) {
                 if (below(4) == 0) {
                     askByRow();
                 } else if (below(6) == 0) {

@@ -118,9 +118,9 @@ public final class EdgeShelfTest {
         Due.dead(x, 1, LAMB, 9);
         String then = state(x);
         x.image();
-        for (int i = 0; i < 3; i++) {
+        for (int i = 0; i < 2; i++) {
             Due.tell(x, "g000;p0100001;p1202002;p2303003;p3004004;p4105005;b4011;c03;u1;d60;");
-            Due.due(39, "it changed", state(x).equals(then) ? 1 : 0, 0);
+            Due.due(39, "it changed", x.count(0), 4);
             Due.due(39, "restore()", x.restore(), 12);
             Due.due(39, "all is as it was then", state(x).equals(then) ? 1 : 0, 1);
         }

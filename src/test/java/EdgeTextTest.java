@@ -293,23 +293,31 @@ public final class EdgeTextTest {
         return all.toString();
     }
 
-    /** "Without FAULT all of it comes, with one nothing." */
-    private static void withOneNothing() {
+    /** A goat at 5, called by 2. */
+    private static WhoeverNamesIt calledGoat() {
         WhoeverNamesIt x = new WhoeverNamesIt();
         Due.come(x, 0, 1, 5);
         x.calls(2, 0);
-        String before = state(x);
+        return x;
+    }
+
+    /** "Without FAULT all of it comes, with one nothing." */
+    private static void withOneNothing() {
         String text = "b0512;g007;p3214123;c31;u0;d02;";
         for (String fault : new String[] {"b8000;", "g999;", "p0016000;", "p0400000;", "c50;", "u9;", "d61;", "d6", "x"}) {
-            int answer = Due.tell(x, text + fault);
-            Due.due(2, "a fault behind all, " + fault, answer < -1000 ? 1 : 0, 1);
+            WhoeverNamesIt x = calledGoat();
+            String before = state(x);
+            int kind = fault.endsWith(";") ? -2000 : -1000;
+            int place = text.length() + (fault.equals("d6") ? 2 : 0);
+            Due.due(2, "a fault behind all, " + fault, Due.tell(x, text + fault), kind - place);
             Due.due(2, "nothing of it came, " + fault, state(x).equals(before) ? 1 : 0, 1);
         }
+        WhoeverNamesIt x = calledGoat();
         Due.due(2, "without fault", Due.tell(x, text), 6);
-        Due.due(2, "all of it came", state(x).equals(before) ? 1 : 0, 0);
         Due.due(2, "the beast more", x.beast(1, 1), 5);
         Due.due(2, "its caller", x.beast(1, 4), 3);
         Due.due(2, "the first is free", x.beast(0, 4), -4);
+        Due.due(2, "tongue", x.person(3, 2), 2);
         Due.due(2, "day", x.count(1), 2);
     }
 
