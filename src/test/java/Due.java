@@ -67,6 +67,32 @@ final class Due {
         }
     }
 
+    /** Everybody stands at one place. */
+    static void gather(WhoeverNamesIt x, int place) {
+        for (int p = 0; p < 5; p++) {
+            x.walks(p, place);
+        }
+    }
+
+    /** All that a mountain tells of itself, in one text, to see that nothing changed. */
+    static String state(WhoeverNamesIt x) {
+        StringBuilder all = new StringBuilder();
+        for (int what = 0; what <= 4; what++) {
+            all.append(x.count(what)).append(' ');
+        }
+        for (int b = x.count(0) - 1; b >= 0; b--) {
+            for (int what = 0; what <= 5; what++) {
+                all.append(x.beast(b, what)).append(' ');
+            }
+        }
+        for (int p = 0; p < 5; p++) {
+            for (int what = 0; what <= 3; what++) {
+                all.append(x.person(p, what)).append(' ');
+            }
+        }
+        return all.toString();
+    }
+
     /** One that is called by a person without means, five days long: dead. */
     static int dead(WhoeverNamesIt x, int person, int sort, int place) {
         int b = come(x, sort, 1, place);

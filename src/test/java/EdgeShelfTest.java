@@ -464,21 +464,9 @@ public final class EdgeShelfTest {
         Due.due(39, "nothing stays nothing", x.cost(0), -11);
     }
 
+    /** The mountain's state, and what the first shelves hold. */
     private static String state(WhoeverNamesIt x) {
-        StringBuilder all = new StringBuilder();
-        for (int what = 0; what <= 4; what++) {
-            all.append(x.count(what)).append(' ');
-        }
-        for (int b = 0; b < x.count(0); b++) {
-            for (int what = 0; what <= 8; what++) {
-                all.append(x.beast(b, what)).append(' ');
-            }
-        }
-        for (int p = 0; p < 5; p++) {
-            for (int what = 0; what <= 4; what++) {
-                all.append(x.person(p, what)).append(' ');
-            }
-        }
+        StringBuilder all = new StringBuilder(Due.state(x));
         for (int d = 0; d < 4; d++) {
             all.append(x.cost(d)).append(' ');
             for (int i = 0; i < 4; i++) {

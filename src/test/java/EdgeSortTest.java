@@ -49,12 +49,6 @@ public final class EdgeSortTest {
         Due.end("EdgeSortTest");
     }
 
-    private static void gather(WhoeverNamesIt x, int place) {
-        for (int p = 0; p < 5; p++) {
-            x.walks(p, place);
-        }
-    }
-
     /** A goat at 5, the nearest at 6: it goes there. */
     private static WhoeverNamesIt goat() {
         WhoeverNamesIt x = new WhoeverNamesIt();
@@ -120,7 +114,7 @@ public final class EdgeSortTest {
     /** "SORTS (bits) of it by which all of it is so; FIGURES (bits 0 .. 9)": one is another, the other as it is. */
     private static void onlyTheOneOfItsKind() {
         WhoeverNamesIt x = new WhoeverNamesIt();
-        gather(x, 15);
+        Due.gather(x, 15);
         Due.come(x, BULL, 2, 0);
         Due.fill(x, 0, 0, 0, 0, 0, 1);
         Due.due(29, "a bull of figure 2, a lamb of none", x.whatIs(0, 0, 0), 4);
@@ -168,7 +162,7 @@ public final class EdgeSortTest {
     /** "a ROW tells likewise, behind 1, 2, .. DAYS". */
     private static void whereFromBehindOne() {
         WhoeverNamesIt x = new WhoeverNamesIt();
-        gather(x, 6);
+        Due.gather(x, 6);
         Due.come(x, LAMB, 0, 3);
         Due.fill(x, 0, 0, 3);
         Due.due(30, "it stays on day 1", x.whereFrom(0, 0), 8);
@@ -186,7 +180,7 @@ public final class EdgeSortTest {
     /** The day ahead of the first element is a day as any: on it just the NEED is eaten, and hunger is 2 more. */
     private static void whereFromFed() {
         WhoeverNamesIt x = new WhoeverNamesIt();
-        gather(x, 15);
+        Due.gather(x, 15);
         Due.come(x, BULL, 2, 0);
         x.calls(0, 0);
         x.means(0, 4);
@@ -201,7 +195,7 @@ public final class EdgeSortTest {
     /** "PLACES (bits) where it could be now": bits 0 and 15. */
     private static void whereFromEnds() {
         WhoeverNamesIt x = new WhoeverNamesIt();
-        gather(x, 0);
+        Due.gather(x, 0);
         Due.come(x, GOAT, 0, 3);
         Due.fill(x, 0, 0, 14);
         Due.due(30, "from 15", x.whereFrom(0, 0), 32768);
@@ -211,7 +205,7 @@ public final class EdgeSortTest {
         Due.due(30, "15 from nowhere", x.whereFrom(0, 0), 0);
         Due.fill(x, 0, 0, 16);
         Due.due(30, "no such place", x.whereFrom(0, 0), 0);
-        gather(x, 15);
+        Due.gather(x, 15);
         Due.fill(x, 0, 0, 15);
         Due.due(30, "from 14 and 15", x.whereFrom(0, 0), 16384 + 32768);
     }
@@ -241,7 +235,7 @@ public final class EdgeSortTest {
     /** Nobody's may be called on the way. */
     private static void whoseOfNobody() {
         WhoeverNamesIt x = new WhoeverNamesIt();
-        gather(x, 6);
+        Due.gather(x, 6);
         Due.come(x, GOAT, 9, 4);
         x.calls(0, 0);
         x.means(0, 0);
@@ -306,7 +300,7 @@ public final class EdgeSortTest {
     private static void firstPair() {
         WhoeverNamesIt x = new WhoeverNamesIt();
         Due.due(32, "nobody has more by anything: both silent", x.two(0, 4, 30), 0);
-        gather(x, 6);
+        Due.gather(x, 6);
         Due.come(x, GOAT, 1, 6);
         x.tongue(2, POET);
         x.tongue(3, POET);
@@ -331,7 +325,7 @@ public final class EdgeSortTest {
                 for (int i = 0; i < dogs; i++) {
                     Due.come(x, DOG, 9, 6);
                 }
-                gather(x, 6);
+                Due.gather(x, 6);
                 x.days(7);
                 Due.come(x, GOAT, 9, 6);
                 x.tongue(1, POET);
@@ -565,7 +559,7 @@ public final class EdgeSortTest {
         int[] draws = {6, 14, 1, 11, 11, 11, 2, 11, 4, 6, 13, 15, 12, 12, 1, 7, 1, 15, 1, 14};
         for (int place = 0; place <= 15; place++) {
             WhoeverNamesIt x = new WhoeverNamesIt();
-            gather(x, place);
+            Due.gather(x, place);
             Due.come(x, LAMB, 9, 0);
             x.tongue(1, POET);
             int called = 0;
@@ -593,7 +587,7 @@ public final class EdgeSortTest {
             }
             for (int place = 0; place <= 15; place += 3) {
                 WhoeverNamesIt x = new WhoeverNamesIt();
-                gather(x, place);
+                Due.gather(x, place);
                 Due.come(x, LAMB, 9, 0);
                 x.tongue(1, POET);
                 int called = 0;
@@ -628,15 +622,15 @@ public final class EdgeSortTest {
     private static void mountainsFromNow() {
         WhoeverNamesIt x = new WhoeverNamesIt();
         Due.dead(x, 0, LAMB, 9);
-        gather(x, 6);
+        Due.gather(x, 6);
         Due.come(x, LAMB, 9, 9);
         Due.come(x, LAMB, 9, 9);
         x.tongue(2, POET);
         Due.due(37, "6 for the first alive, 14 for the second", x.mountains(1, 1, 0), 1);
-        gather(x, 14);
+        Due.gather(x, 14);
         Due.due(37, "14 for the second", x.mountains(1, 1, 0), 1);
         Due.due(37, "1 and 11 then", x.mountains(2, 1, 0), 1);
-        gather(x, 11);
+        Due.gather(x, 11);
         Due.due(37, "11 for the second of the second", x.mountains(2, 1, 0), 1);
         Due.due(37, "11 and 11 of the third", x.mountains(3, 1, 0), 3);
         Due.due(40, "day", x.count(1), 5);

@@ -51,23 +51,16 @@ public final class EdgeTermsTest {
         Due.end("EdgeTermsTest");
     }
 
-    /** Everybody stands at one place. */
-    private static void gather(WhoeverNamesIt x, int place) {
-        for (int p = 0; p < 5; p++) {
-            x.walks(p, place);
-        }
-    }
-
     /** "A PATH of PLACES 0 .. 15." */
     private static void endsOfThePath() {
         for (int end = 0; end <= 15; end += 15) {
             WhoeverNamesIt x = new WhoeverNamesIt();
-            gather(x, end);
+            Due.gather(x, end);
             int b = Due.come(x, GOAT, 1, end);
             Due.due(5, "comes at the end " + end, x.beast(b, 2), end);
             x.days(3);
             Due.due(12, "nobody goes beyond " + end, x.beast(b, 2), end);
-            gather(x, 15 - end);
+            Due.gather(x, 15 - end);
             x.days(15);
             Due.due(12, "15 days to the other end from " + end, x.beast(b, 2), 15 - end);
             x.days(1);
@@ -284,7 +277,7 @@ public final class EdgeTermsTest {
     /** "(of several the least number)", "(of several the least)". */
     private static void ofSeveralTheLeast() {
         WhoeverNamesIt x = new WhoeverNamesIt();
-        gather(x, 15);
+        Due.gather(x, 15);
         x.walks(2, 4);
         x.walks(1, 6);
         Due.due(3, "between 1 and 2", x.beast(Due.come(x, GOAT, 1, 5), 8), 6);
@@ -304,7 +297,7 @@ public final class EdgeTermsTest {
     /** "LAMB as a GOAT, if 2 more than FIGURE divides d, else none", DAY 999 and the day behind it too. */
     private static void lambDivides() {
         WhoeverNamesIt x = new WhoeverNamesIt();
-        gather(x, 15);
+        Due.gather(x, 15);
         Due.come(x, LAMB, 0, 0);
         Due.come(x, LAMB, 9, 0);
         for (int d = 1; d <= 23; d++) {
@@ -334,7 +327,7 @@ public final class EdgeTermsTest {
     /** "BULL as a GOAT, if HUNGER is FIGURE or more, else none". */
     private static void bullHungers() {
         WhoeverNamesIt x = new WhoeverNamesIt();
-        gather(x, 15);
+        Due.gather(x, 15);
         Due.come(x, BULL, 9, 0);
         Due.come(x, BULL, 8, 0);
         Due.come(x, BULL, 0, 0);
@@ -350,13 +343,13 @@ public final class EdgeTermsTest {
     /** "WOLF 15, if the nearest of PEOPLE is at its own PLACE or a lesser one, else 0". */
     private static void wolfAtItsOwnPlace() {
         WhoeverNamesIt x = new WhoeverNamesIt();
-        gather(x, 7);
+        Due.gather(x, 7);
         Due.due(3, "at its own place", x.beast(Due.come(x, WOLF, 1, 7), 8), 15);
         Due.due(3, "one greater", x.beast(Due.come(x, WOLF, 1, 6), 8), 0);
         Due.due(3, "one lesser", x.beast(Due.come(x, WOLF, 1, 8), 8), 15);
-        gather(x, 0);
+        Due.gather(x, 0);
         Due.due(3, "both at 0", x.beast(Due.come(x, WHELP, 1, 0), 8), 15);
-        gather(x, 15);
+        Due.gather(x, 15);
         Due.due(3, "both at 15", x.beast(Due.come(x, WOLF, 1, 15), 8), 15);
         Due.due(3, "at 0, far away", x.beast(3, 8), 0);
         x.days(2);
@@ -367,7 +360,7 @@ public final class EdgeTermsTest {
     /** "ASS as a MARE, if its HUNGER is even, else none": 0 .. 9. */
     private static void assEven() {
         WhoeverNamesIt x = new WhoeverNamesIt();
-        gather(x, 15);
+        Due.gather(x, 15);
         Due.come(x, ASS, 1, 0);
         for (int hunger = 0; hunger <= 9; hunger++) {
             Due.due(3, "hunger " + hunger, x.beast(0, 8), hunger % 2 == 0 ? 15 : -4);
@@ -397,7 +390,7 @@ public final class EdgeTermsTest {
     /** "(at it, or with none: they stay)". */
     private static void theyStay() {
         WhoeverNamesIt x = new WhoeverNamesIt();
-        gather(x, 6);
+        Due.gather(x, 6);
         Due.come(x, GOAT, 1, 6);
         Due.come(x, LAMB, 9, 2);
         Due.come(x, GOAT, 1, 5);
@@ -423,7 +416,7 @@ public final class EdgeTermsTest {
     /** "KIND CALLS .. with HUNGER 5 or more, the least number". */
     private static void kindFromFive() {
         WhoeverNamesIt x = new WhoeverNamesIt();
-        gather(x, 6);
+        Due.gather(x, 6);
         Due.come(x, GOAT, 1, 6);
         x.days(1);
         Due.come(x, GOAT, 1, 6);
@@ -443,7 +436,7 @@ public final class EdgeTermsTest {
     /** "of the BEASTS ALIVE at his PLACE CALLED by nobody". */
     private static void kindOfNobodys() {
         WhoeverNamesIt x = new WhoeverNamesIt();
-        gather(x, 6);
+        Due.gather(x, 6);
         Due.come(x, LAMB, 9, 6);
         Due.come(x, LAMB, 9, 5);
         Due.come(x, LAMB, 9, 7);
@@ -459,7 +452,7 @@ public final class EdgeTermsTest {
     /** "PROUD, of those there CALLED by nobody with WORK 4 or more, that of most WORK, of several the least number". */
     private static void proudFromFour() {
         WhoeverNamesIt x = new WhoeverNamesIt();
-        gather(x, 6);
+        Due.gather(x, 6);
         Due.come(x, GOAT, 9, 6);
         Due.come(x, ASS, 1, 6);
         Due.come(x, MARE, 0, 6);
@@ -481,7 +474,7 @@ public final class EdgeTermsTest {
 
     private static void proudOfNobodys() {
         WhoeverNamesIt x = new WhoeverNamesIt();
-        gather(x, 6);
+        Due.gather(x, 6);
         Due.come(x, MARE, 9, 6);
         Due.come(x, BULL, 8, 5);
         Due.come(x, BULL, 7, 6);
@@ -495,7 +488,7 @@ public final class EdgeTermsTest {
     /** "POET all those there CALLED by nobody". */
     private static void poetOfNobodys() {
         WhoeverNamesIt x = new WhoeverNamesIt();
-        gather(x, 6);
+        Due.gather(x, 6);
         for (int b = 0; b < 9; b++) {
             Due.come(x, LAMB, 9, b == 4 ? 5 : b == 5 ? 7 : 6);
         }
@@ -509,7 +502,7 @@ public final class EdgeTermsTest {
     /** "Then PEOPLE speak, by numbers, as all is by then": behind the way of that day, and behind who spoke already. */
     private static void asAllIsByThen() {
         WhoeverNamesIt x = new WhoeverNamesIt();
-        gather(x, 6);
+        Due.gather(x, 6);
         Due.come(x, GOAT, 1, 5);
         Due.come(x, GOAT, 1, 7);
         x.tongue(4, POET);
@@ -519,7 +512,7 @@ public final class EdgeTermsTest {
         Due.due(12, "nothing is left for 4", x.person(4, 4), 0);
         Due.due(12, "and fed on that day", x.person(3, 0), 42);
         WhoeverNamesIt y = new WhoeverNamesIt();
-        gather(y, 6);
+        Due.gather(y, 6);
         Due.come(y, LAMB, 9, 6);
         Due.come(y, LAMB, 9, 6);
         Due.come(y, LAMB, 9, 6);

@@ -275,24 +275,6 @@ public final class EdgeTextTest {
         Due.due(2, "the last of 99 bytes", told(many("b0000;", 9) + many("d01;", 10) + "g099;"), -2094);
     }
 
-    private static String state(WhoeverNamesIt x) {
-        StringBuilder all = new StringBuilder();
-        for (int what = 0; what <= 4; what++) {
-            all.append(x.count(what)).append(' ');
-        }
-        for (int b = 0; b < x.count(0); b++) {
-            for (int what = 0; what <= 8; what++) {
-                all.append(x.beast(b, what)).append(' ');
-            }
-        }
-        for (int p = 0; p < 5; p++) {
-            for (int what = 0; what <= 6; what++) {
-                all.append(x.person(p, what)).append(' ');
-            }
-        }
-        return all.toString();
-    }
-
     /** A goat at 5, called by 2. */
     private static WhoeverNamesIt calledGoat() {
         WhoeverNamesIt x = new WhoeverNamesIt();
@@ -306,11 +288,11 @@ public final class EdgeTextTest {
         String text = "b0512;g007;p3214123;c31;u0;d02;";
         for (String fault : new String[] {"b8000;", "g999;", "p0016000;", "p0400000;", "c50;", "u9;", "d61;", "d6", "x"}) {
             WhoeverNamesIt x = calledGoat();
-            String before = state(x);
+            String before = Due.state(x);
             int kind = fault.endsWith(";") ? -2000 : -1000;
             int place = text.length() + (fault.equals("d6") ? 2 : 0);
             Due.due(2, "a fault behind all, " + fault, Due.tell(x, text + fault), kind - place);
-            Due.due(2, "nothing of it came, " + fault, state(x).equals(before) ? 1 : 0, 1);
+            Due.due(2, "nothing of it came, " + fault, Due.state(x).equals(before) ? 1 : 0, 1);
         }
         WhoeverNamesIt x = calledGoat();
         Due.due(2, "without fault", Due.tell(x, text), 6);

@@ -9,7 +9,6 @@ public final class EdgeThenTest {
     private static final int MARE = 3;
     private static final int DOG = 4;
     private static final int WOLF = 5;
-    private static final int ASS = 6;
     private static final int WHELP = 7;
 
     private static final int KIND = 1;
@@ -45,12 +44,6 @@ public final class EdgeThenTest {
         hungriestOfSeveral();
         pairsOfTheLiving();
         Due.end("EdgeThenTest");
-    }
-
-    private static void gather(WhoeverNamesIt x, int place) {
-        for (int p = 0; p < 5; p++) {
-            x.walks(p, place);
-        }
     }
 
     /** Ranges of n (and v) with both ends: "0 .. 60", "0 .. 30", "0 .. 20", "0 .. 99", "1 .. 30", "0 .. 7", "1 .. 20". */
@@ -164,7 +157,7 @@ public final class EdgeThenTest {
     /** "NAMED: behind how many DAYS (0 .. 60) one is CALLED by somebody first": who is dead on the day of its call is not. */
     private static void namedBehindADay() {
         WhoeverNamesIt x = new WhoeverNamesIt();
-        gather(x, 6);
+        Due.gather(x, 6);
         Due.come(x, LAMB, 9, 6);
         x.days(6);
         x.tongue(2, POET);
@@ -185,7 +178,7 @@ public final class EdgeThenTest {
     /** What is fed in mind is fed just its NEED: 0 is as rich as 1 behind 3 days, so the mare turns back on day 4. */
     private static void namedByRiches() {
         WhoeverNamesIt x = new WhoeverNamesIt();
-        gather(x, 15);
+        Due.gather(x, 15);
         for (int p = 2; p < 5; p++) {
             x.means(p, 0);
         }
@@ -252,14 +245,14 @@ public final class EdgeThenTest {
     private static void stillForTwenty() {
         for (int figure = 0; figure <= 9; figure++) {
             WhoeverNamesIt x = new WhoeverNamesIt();
-            gather(x, 15);
+            Due.gather(x, 15);
             Due.come(x, LAMB, figure, 0);
             Due.due(18, "a lamb that goes 15 times, figure " + figure, x.still(), figure == 0 ? 30 : -4);
             x.stands(0, 14);
             Due.due(18, "a lamb that goes once, figure " + figure, x.still(), figure + 2);
         }
         WhoeverNamesIt x = new WhoeverNamesIt();
-        gather(x, 15);
+        Due.gather(x, 15);
         Due.come(x, GOAT, 0, 0);
         Due.due(18, "a goat of 15 days", x.still(), 15);
         Due.come(x, GOAT, 0, 0);
@@ -273,7 +266,7 @@ public final class EdgeThenTest {
     /** A wolf at 5 flees from 6 down to 4, and from 3 up to 5 again. */
     private static WhoeverNamesIt backAndForth() {
         WhoeverNamesIt x = new WhoeverNamesIt();
-        gather(x, 6);
+        Due.gather(x, 6);
         Due.come(x, WOLF, 1, 5);
         x.walks(1, 6);
         x.walks(0, 14);
@@ -289,7 +282,7 @@ public final class EdgeThenTest {
         for (int what = 0; what <= 2; what++) {
             Due.due(19, "of none, what " + what, x.next(what), 0);
         }
-        gather(x, 6);
+        Due.gather(x, 6);
         for (int b = 0; b < 9; b++) {
             Due.come(x, LAMB, 0, 6);
         }
@@ -419,7 +412,7 @@ public final class EdgeThenTest {
     /** "leave him none (of those he still CALLS) DEAD": whom he let go he may call again, and that one may be dead. */
     private static void letGoOfThoseHeStillCalls() {
         WhoeverNamesIt x = new WhoeverNamesIt();
-        gather(x, 6);
+        Due.gather(x, 6);
         Due.come(x, LAMB, 9, 6);
         Due.come(x, LAMB, 9, 9);
         x.calls(0, 0);
@@ -491,7 +484,7 @@ public final class EdgeThenTest {
     private static void exchangeMoreThanElse() {
         Due.due(25, "of no beasts", new WhoeverNamesIt().exchange(20), -4);
         WhoeverNamesIt x = new WhoeverNamesIt();
-        gather(x, 6);
+        Due.gather(x, 6);
         Due.come(x, LAMB, 1, 6);
         x.tongue(0, POET);
         Due.due(25, "nobody is dead as it is", x.exchange(20), -4);
@@ -510,7 +503,7 @@ public final class EdgeThenTest {
     /** "(10 the lesser and the other) .. of several the first". */
     private static void exchangeTheFirst() {
         WhoeverNamesIt x = new WhoeverNamesIt();
-        gather(x, 6);
+        Due.gather(x, 6);
         Due.come(x, LAMB, 1, 6);
         for (int p = 0; p < 5; p++) {
             x.means(p, 0);
@@ -534,7 +527,7 @@ public final class EdgeThenTest {
         Due.due(26, "without means: silent", x.teach(0, 30, 0), 0);
         Due.due(26, "none", x.teach(0, 30, 1), 0);
         x.means(0, 40);
-        gather(x, 6);
+        Due.gather(x, 6);
         Due.come(x, LAMB, 1, 6);
         x.tongue(0, POET);
         Due.due(26, "a lamb only eats", x.teach(0, 30, 0), 0);
